@@ -14,6 +14,7 @@ public final class FathomNight {
     private static final int TAPE_BYTES = 600;
     private static final int FED_BYTES = 20;
     private static final int MOST_HOUSES = 8;
+    private static final int BEDS = 4;
     private static final int MOST_SLEEPERS = 9;
     private static final int MOST_WINE = 8;
     private static final int MOST_ACTS = 40;
@@ -44,7 +45,7 @@ public final class FathomNight {
     private static final int LATE_UNITS = 2;
 
     private static final int SEVEN_SLEEPERS = 5;
-    private static final int SEVEN_LATEST = 8;
+    private static final int SEVEN_LIES = 9;
     private static final int SEVEN_UNITS = 28;
     private static final int STANDIN_RICH = 4;
     private static final int WENT_GOES = 7;
@@ -288,7 +289,7 @@ public final class FathomNight {
         }
         switch (question) {
             case 1:
-                return night.due(k);
+                return night.dues[k];
             case 2:
                 return night.wokenLast(k);
             case 3:
@@ -405,7 +406,7 @@ public final class FathomNight {
         if (n < 0 || n > WEEKS || !isSleeper(street, k) || !isOpened(street, law, round)) {
             return NONE;
         }
-        int due = night.due(k) * NIGHTS_OF_WEEK;
+        int due = night.dues[k] * NIGHTS_OF_WEEK;
         int asleep = night.street.upAt(k) - night.street.lies[k];
         int owed = 0;
         for (int week = 0; week < n; week++) {
@@ -1347,6 +1348,9 @@ public final class FathomNight {
         final int[] depths = new int[MOST_SLEEPERS * UNITS];
         /** Who stands in for each one. */
         final int[] standin = new int[MOST_SLEEPERS];
+        /** DUE by SLEEPERS, as reckoned last. */
+        final int[] dues = new int[MOST_SLEEPERS];
+        private final int[] bedReadings = new int[BEDS];
 
         Night(Street street, Law law, Trail trail) {
             this.street = street;
@@ -1362,6 +1366,7 @@ public final class FathomNight {
                 standin[k] = street.standinOf(k);
                 layDown(k);
             }
+            reckonDues();
         }
 
         /** Reckons all DEPTHS of one SLEEPER. */
@@ -1462,21 +1467,45 @@ public final class FathomNight {
             return sum;
         }
 
-        int due(int k) {
-            int sum = 0;
+        void reckonDues() {
+            Arrays.fill(dues, 0);
             for (int i = 0; i < trail.soundings; i++) {
-                int u = trail.soundedAt[i];
-                if (trail.sounded[u] == street.house[k]) {
-                    sum += trail.times[u] * charge(k, u);
+                reckonSounding(trail.soundedAt[i]);
+            }
+            for (int k = 0; k < street.sleepers; k++) {
+                dues[k] = Math.min(dues[k], law.cap);
+            }
+        }
+
+        private void reckonSounding(int u) {
+            int house = trail.sounded[u];
+            if (law.shared) {
+                readBeds(house, u);
+            }
+            for (int k = 0; k < street.sleepers; k++) {
+                int read = street.house[k] == house ? reading(k, u) : NONE;
+                if (read != NONE) {
+                    int taxed = law.shared ? bedReadings[street.bed[k]] : read;
+                    dues[k] += trail.times[u] * law.chargeOf(taxed, u, house, street.hasPoppy(k, u));
                 }
             }
-            return Math.min(sum, law.cap);
+        }
+
+        /** The greatest READING in each BED of a HOUSE. */
+        private void readBeds(int house, int u) {
+            Arrays.fill(bedReadings, NONE);
+            for (int k = 0; k < street.sleepers; k++) {
+                if (street.house[k] == house) {
+                    int bed = street.bed[k];
+                    bedReadings[bed] = Math.max(bedReadings[bed], reading(k, u));
+                }
+            }
         }
 
         int dueOfAll() {
             int sum = 0;
             for (int k = 0; k < street.sleepers; k++) {
-                sum += due(k);
+                sum += dues[k];
             }
             return sum;
         }
@@ -1485,7 +1514,7 @@ public final class FathomNight {
             int sum = 0;
             for (int k = 0; k < street.sleepers; k++) {
                 if (street.house[k] == house) {
-                    sum += due(k);
+                    sum += dues[k];
                 }
             }
             return sum;
@@ -1558,10 +1587,11 @@ public final class FathomNight {
         final int[] bestRow = new int[MOST_SLEEPERS];
         int found = 0;
         final int[] drawnDue = new int[MOST_SLEEPERS];
-        /** The least that is due of each SLEEPER and all behind him, were each alone in the STREET. */
-        private final int[] leastBehind = new int[MOST_SLEEPERS + 1];
         private final int[] row = new int[MOST_SLEEPERS];
-        private final int[] dues = new int[MOST_SLEEPERS];
+        /** DEPTHS of each SLEEPER by each LIES that he may like; behind these, of one who dozes. */
+        private final int[] lain = new int[SEVEN_SLEEPERS * (SEVEN_LIES + 1) * UNITS];
+        /** The least that is due of each SLEEPER, when all others doze. */
+        private final int[] alone = new int[SEVEN_SLEEPERS];
         private final int[] beside = new int[UNITS];
 
         Plans(Night night) {
@@ -1571,46 +1601,65 @@ public final class FathomNight {
         void findSeven() {
             changed.copyFrom(night.street);
             night.street = changed;
-            for (int k = 0; k < changed.sleepers; k++) {
-                night.keepAwake(k);
+            for (int k = 0; k < changed.sleepers && k < SEVEN_SLEEPERS; k++) {
+                reckonLain(k);
             }
-            reckonLeastBehind();
+            for (int k = 0; k < changed.sleepers && k < SEVEN_SLEEPERS; k++) {
+                reckonAlone(k);
+            }
             best = changed.sleepers == 0 ? 0 : FAR;
             tryLies(this, 0);
         }
 
-        private void layDownAt(int k, int lies) {
-            changed.lies[k] = lies;
-            changed.rises[k] = lies + SEVEN_UNITS;
-            night.layDown(k);
+        /** One who dozes sleeps at each UNIT as little as by any LIES. */
+        private void reckonLain(int k) {
+            int dozing = (k * (SEVEN_LIES + 1) + SEVEN_LIES) * UNITS;
+            Arrays.fill(lain, dozing, dozing + UNITS, FAR);
+            for (int lies = 0; lies < SEVEN_LIES; lies++) {
+                changed.lies[k] = lies;
+                changed.rises[k] = lies + SEVEN_UNITS;
+                night.layDown(k);
+                int from = (k * (SEVEN_LIES + 1) + lies) * UNITS;
+                for (int u = 0; u < UNITS; u++) {
+                    lain[from + u] = night.depths[k * UNITS + u];
+                    lain[dozing + u] = Math.min(lain[dozing + u], lain[from + u]);
+                }
+            }
+            doze(k);
         }
 
-        private void reckonLeastBehind() {
-            leastBehind[changed.sleepers] = 0;
-            for (int k = changed.sleepers - 1; k >= 0; k--) {
-                int least = FAR;
-                for (int lies = 0; lies <= SEVEN_LATEST; lies++) {
-                    layDownAt(k, lies);
-                    least = Math.min(least, night.due(k));
-                }
-                night.keepAwake(k);
-                leastBehind[k] = leastBehind[k + 1] + least;
+        private void layDownAt(int k, int lies) {
+            System.arraycopy(lain, (k * (SEVEN_LIES + 1) + lies) * UNITS, night.depths, k * UNITS, UNITS);
+        }
+
+        private void doze(int k) {
+            layDownAt(k, SEVEN_LIES);
+        }
+
+        private void reckonAlone(int k) {
+            alone[k] = FAR;
+            for (int lies = 0; lies < SEVEN_LIES; lies++) {
+                layDownAt(k, lies);
+                night.reckonDues();
+                alone[k] = Math.min(alone[k], night.dues[k]);
             }
+            doze(k);
         }
 
         /**
-         * Tries all LIES of a SLEEPER and those behind him. Whoever does not lie yet is awake: as one
-         * more sleeper never makes another's DUE less, rows that are too dear so far are left at once.
+         * Tries all LIES of a SLEEPER and those behind him, who doze until then: as nobody's DUE grows
+         * less when another one sleeps longer or deeper, rows that are too dear so far are left at once.
          */
         private static void tryLies(Plans plans, int k) {
             int sleepers = plans.changed.sleepers;
             if (k >= sleepers || k >= SEVEN_SLEEPERS) {
                 return;
             }
-            for (int lies = 0; lies <= SEVEN_LATEST; lies++) {
+            for (int lies = 0; lies < SEVEN_LIES; lies++) {
                 plans.layDownAt(k, lies);
-                int due = plans.night.dueOfAll();
-                if (due + plans.leastBehind[k + 1] < plans.best) {
+                plans.night.reckonDues();
+                int due = plans.leastDue(k);
+                if (due < plans.best) {
                     plans.row[k] = lies;
                     if (k + 1 == sleepers) {
                         plans.best = due;
@@ -1620,7 +1669,16 @@ public final class FathomNight {
                     }
                 }
             }
-            plans.night.keepAwake(k);
+            plans.doze(k);
+        }
+
+        /** What is due at least, when all behind a SLEEPER may yet lie down as they like. */
+        private int leastDue(int k) {
+            int sum = 0;
+            for (int j = 0; j < changed.sleepers && j < SEVEN_SLEEPERS; j++) {
+                sum += j <= k ? night.dues[j] : Math.max(night.dues[j], alone[j]);
+            }
+            return sum;
         }
 
         /** The least DUE of a SLEEPER by one alarm, or by two, and its UNIT or UNITS. */
@@ -1675,6 +1733,7 @@ public final class FathomNight {
             Night night = plans.night;
             Street street = night.street;
             if (k >= street.sleepers || k >= MOST_SLEEPERS) {
+                night.reckonDues();
                 plans.found++;
                 plans.best = Math.min(plans.best, night.dueOfAll());
                 return;
@@ -1702,7 +1761,7 @@ public final class FathomNight {
                 x = drawWine(x);
                 night.open(changed, night.law, night.trail);
                 for (int k = 0; k < changed.sleepers; k++) {
-                    drawnDue[k] += night.due(k);
+                    drawnDue[k] += night.dues[k];
                 }
                 if (night.isAnyCaught()) {
                     found++;
@@ -1733,12 +1792,8 @@ public final class FathomNight {
 
         /** Bits of the most SLEEPERS whose DUES are so many coins or fewer. */
         int mostPaid(int coins) {
-            int sleepers = night.street.sleepers;
-            for (int k = 0; k < sleepers; k++) {
-                dues[k] = night.due(k);
-            }
             int most = 0;
-            for (int set = 1; set < 1 << sleepers; set++) {
+            for (int set = 1; set < 1 << night.street.sleepers; set++) {
                 if (Integer.bitCount(set) > Integer.bitCount(most) && dueOfSet(set) <= coins) {
                     most = set;
                 }
@@ -1750,7 +1805,7 @@ public final class FathomNight {
             int sum = 0;
             for (int k = 0; k < MOST_SLEEPERS; k++) {
                 if ((set >> k & 1) != 0) {
-                    sum += dues[k];
+                    sum += night.dues[k];
                 }
             }
             return sum;
