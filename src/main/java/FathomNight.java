@@ -1752,6 +1752,7 @@ public final class FathomNight {
             night.standin[k] = NONE;
         }
 
+        /** DUES by SLEEPERS of all nights, and on how many of them somebody was READ above MARK. */
         void draw(int seed, int nights) {
             changed.copyFrom(night.street);
             Arrays.fill(drawnDue, 0);
@@ -1773,13 +1774,17 @@ public final class FathomNight {
             int x = seed;
             changed.wines = 0;
             for (int k = 0; k < changed.sleepers; k++) {
-                x = x * 1103515245 + 12345;
+                x = nextSeed(x);
                 if ((x >>> 16) % 4 == 0) {
-                    x = x * 1103515245 + 12345;
+                    x = nextSeed(x);
                     changed.addWine(k, (x >>> 16) % UNITS);
                 }
             }
             return x;
+        }
+
+        private static int nextSeed(int x) {
+            return x * 1103515245 + 12345;
         }
 
         int drawnInAll() {

@@ -15,6 +15,9 @@ public final class ByPlainWaysTest {
         for (int i = from; i < from + worlds; i++) {
             dice = new Random(i * 7919L + 17);
             world(i);
+            if (i % 5 == 0) {
+                crowd(i);
+            }
             if (T.wrong() > 20) {
                 break;
             }
@@ -158,7 +161,8 @@ public final class ByPlainWaysTest {
     private static void world(int i) {
         FathomNight x = new FathomNight();
         boolean small = below(2) == 0;
-        String street = streetText(small ? 1 + below(3) : 1 + below(6), small ? 4 : 9);
+        int houses = small ? 1 + below(3) : below(8) == 0 ? 7 + below(2) : 1 + below(6);
+        String street = streetText(houses, small ? 4 : 9);
         at = "world " + i + ": ";
         Plainly.Street s = told(x, 0, street).street;
         Plainly.Law law = told(x, 1, lawText()).law;
@@ -169,6 +173,44 @@ public final class ByPlainWaysTest {
         plans(x, s, law, r);
         waysOf(x, s, law, c);
         nights(x, s, law, r);
+    }
+
+    /** Some who share beds and stand in for one another, so that each one's LIES tells on the others. */
+    private static void crowd(int i) {
+        at = "crowd " + i + ": ";
+        String[] manners = {"plain", "mother", "child", "rich", "rich", "plain"};
+        StringBuilder t = new StringBuilder("houses 2;cat 1;door 0 1 ").append(1 + below(3)).append(';');
+        t.append(below(2) == 0 ? "cat 0;" : "");
+        int n = 3 + below(2);
+        int[] manner = new int[n];
+        for (int k = 0; k < n; k++) {
+            manner[k] = below(6);
+            t.append(manners[manner[k]]).append(" 0 ").append(below(2)).append(" 0 28 ").append(1 + below(9)).append(' ')
+                    .append(5 + below(56)).append(';');
+        }
+        for (int j = 0; j < n; j++) {
+            int k = below(n);
+            t.append(below(2) == 0 ? "wine " + k + " " + unit() + ";" : "");
+            t.append(below(2) == 0 ? "poppy " + k + " " + unit() + ";" : "");
+            t.append(j != k && manners[manner[k]].equals("rich") ? "stands " + j + " " + k + ";" : "");
+        }
+        StringBuilder r = new StringBuilder("begin ").append(below(2)).append(' ').append(below(5)).append(';');
+        for (int j = 3 + below(9); j > 0; j--) {
+            r.append(below(3) == 0 ? "sound;go 1;go 0;" : "sound;wait " + (1 + below(5)) + ";");
+        }
+        FathomNight x = new FathomNight();
+        Plainly.Street s = told(x, 0, t.toString()).street;
+        Plainly.Law law = told(x, 1, lawText() + (below(3) == 0 ? "" : "shared;")).law;
+        Plainly.Round round = told(x, 2, r.toString()).round;
+        seven(x, s, law, round);
+    }
+
+    private static void seven(FathomNight x, Plainly.Street s, Plainly.Law law, Plainly.Round r) {
+        int[] seven = Plainly.seven(s, law, r);
+        T.due(at + "seven", x.seven(0, 0, 0, 0), seven[0]);
+        for (int k = 0; k < s.sleepers.size(); k++) {
+            T.due(at + "seven " + k, x.seven(0, 0, 0, 10 + k), seven[1 + k]);
+        }
     }
 
     private static void toldThings(FathomNight x, Plainly.Street s, Plainly.Law law, Plainly.Round r, Plainly.Catch c) {
@@ -247,11 +289,7 @@ public final class ByPlainWaysTest {
     private static void plans(FathomNight x, Plainly.Street s, Plainly.Law law, Plainly.Round r) {
         int n = s.sleepers.size();
         if (n <= 3 || n <= 5 && below(30) == 0) {
-            int[] seven = Plainly.seven(s, law, r);
-            T.due(at + "seven", x.seven(0, 0, 0, 0), seven[0]);
-            for (int k = 0; k < n; k++) {
-                T.due(at + "seven " + k, x.seven(0, 0, 0, 10 + k), seven[1 + k]);
-            }
+            seven(x, s, law, r);
         } else if (n > 5) {
             T.due(at + "seven", x.seven(0, 0, 0, 0), -1);
         }
@@ -287,7 +325,7 @@ public final class ByPlainWaysTest {
         }
         T.due(at + "cats", x.cats(0, true), Plainly.cats(s));
         T.due(at + "cats", x.cats(0, false), Integer.bitCount(Plainly.cats(s)));
-        int most = s.houses <= 3 ? 7 : 4;
+        int most = s.houses <= 3 ? 7 : s.houses <= 6 ? 4 : 3;
         for (int n = 0; n <= most; n++) {
             long[] went = Plainly.went(s, law, c, n);
             T.due(at + "went " + n, x.went(0, 0, 0, n, -1), went == null ? -1 : went[8]);

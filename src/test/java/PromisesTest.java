@@ -646,6 +646,11 @@ public final class PromisesTest {
         due("the shortest", x.sold(0, 0, 1), 1);
         x = told("houses 3;door 0 1 9;door 1 2 9;cat 1;plain 0 0 0 36 2 60;plain 1 0 0 36 2 60;", "shared;", null, null);
         due("house 0 is sounded first, at 0", x.sold(0, 0, 0), 18);
+        x = told("houses 1;plain 0 0 0 36 2 60;poppy 0 0;", "fine 8;", null, null);
+        due("fine at unit 0", x.sold(0, 0, 0), 8);
+        String far = "houses 5;door 0 1 9;door 1 2 9;door 2 3 9;plain 4 0 34 36 5 60;";
+        due("at 35", told(far + "door 3 4 8;", "", null, null).sold(0, 0, 0), 5);
+        due("behind 35", told(far + "door 3 4 9;", "", null, null).sold(0, 0, 0), 0);
     }
 
     private static void p18quick() {
@@ -809,6 +814,8 @@ public final class PromisesTest {
         due("by 1", x.odds(0, 0, 0, true), 1);
         x = told("plain 0 0 2 6 2 60;poppy 0 0;", "fine 9;free 0;", null, null);
         due("a free house", x.odds(0, 0, 0, false), 0);
+        x = told("plain 0 0 0 2 2 60;poppy 0 0;", "fine 9;", null, null);
+        due("fine from unit 0 on", x.odds(0, 0, 0, false), 9 + 1);
     }
 
     private static void p26drawn() {
