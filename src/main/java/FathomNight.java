@@ -90,14 +90,16 @@ public final class FathomNight {
     }
 
     public int text(int sort, int at) {
+        // The tape is taken also where no text is read.
+        int length = told.length;
+        told.length = 0;
         told.fault = 0;
         told.place = NONE;
         int number = told.placeFor(sort, at);
         if (number == NONE) {
             return NO_SUCH;
         }
-        scribe.take(sort, told.length);
-        told.length = 0;
+        scribe.take(sort, length);
         told.fault = scribe.fault;
         told.place = scribe.place;
         if (scribe.fault != 0) {
