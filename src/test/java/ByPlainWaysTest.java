@@ -13,7 +13,7 @@ public final class ByPlainWaysTest {
         int from = args.length > 0 ? Integer.parseInt(args[0]) : 0;
         int worlds = args.length > 1 ? Integer.parseInt(args[1]) : 300;
         for (int i = from; i < from + worlds; i++) {
-            dice = new Random(i * 7919L + 17);
+            roll(i * 7919L + 17);
             world(i);
             if (i % 5 == 0) {
                 crowd(i);
@@ -23,6 +23,11 @@ public final class ByPlainWaysTest {
             }
         }
         T.close("ByPlainWaysTest");
+    }
+
+    /** Begins a new row of texts at random; other tests take their texts here, too. */
+    static void roll(long seed) {
+        dice = new Random(seed);
     }
 
     private static int below(int n) {

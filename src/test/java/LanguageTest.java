@@ -1,13 +1,18 @@
 import java.io.IOException;
+import java.lang.reflect.Constructor;
+import java.lang.reflect.Field;
+import java.lang.reflect.Method;
+import java.lang.reflect.Modifier;
 import java.nio.file.Files;
 import java.nio.file.Path;
 import java.util.HashSet;
 import java.util.List;
 import java.util.Set;
+import java.util.TreeSet;
 import java.util.regex.Matcher;
 import java.util.regex.Pattern;
 
-/** The rules of LANGUAGE.md that can be seen in the source. Run in the project's folder. */
+/** The document's public face, and the rules of LANGUAGE.md that can be seen in the source. Run in the project's folder. */
 public final class LanguageTest {
     private static final Telling T = new Telling();
     private static final List<String> FORBIDDEN = List.of("\\bthrow\\b", "\\btry\\b", "\\bcatch\\b", "\\bfinally\\b",
@@ -29,6 +34,8 @@ public final class LanguageTest {
             T.due("import " + imports.group(1), Set.of("java.util.Arrays", "java.util.ArrayList", "java.util.List")
                     .contains(imports.group(1)), true);
         }
+        face(Files.readString(Path.of("../shared/DOC.md")));
+        classesInside();
         statics(code);
         methods(code);
         T.due("classes", count(code, "\\bclass \\w+") <= 12, true);
@@ -44,6 +51,62 @@ public final class LanguageTest {
             many++;
         }
         return many;
+    }
+
+    /** "The public face": all that the document names, and nothing else that is not private. */
+    private static void face(String document) {
+        Set<String> due = new TreeSet<>();
+        Matcher m = Pattern.compile("(?m)^    public (static final int \\w+|[\\w ]*\\w+\\(.*\\))(?: = -?\\d+)?;$").matcher(document);
+        while (m.find()) {
+            due.add(m.group(1).replaceAll("(int|boolean|long) \\w+(?=[,)])", "$1").replace(" ", ""));
+        }
+        Set<String> has = new TreeSet<>();
+        for (Field f : FathomNight.class.getDeclaredFields()) {
+            if (!Modifier.isPrivate(f.getModifiers())) {
+                has.add(nonPublic(f.getModifiers()) + f.getType() + f.getName());
+            }
+        }
+        for (Constructor<?> c : FathomNight.class.getDeclaredConstructors()) {
+            has.add(c.getName() + types(c.getParameterTypes()));
+            T.due("the constructor is public", Modifier.isPublic(c.getModifiers()), true);
+        }
+        for (Method method : FathomNight.class.getDeclaredMethods()) {
+            if (!Modifier.isPrivate(method.getModifiers())) {
+                has.add(nonPublic(method.getModifiers()) + method.getReturnType() + method.getName()
+                        + types(method.getParameterTypes()));
+            }
+        }
+        System.out.println("the document's face has " + due.size() + " members");
+        T.due("the face is the document's: " + has, has.equals(due), true);
+        T.due("the class is public and final", Modifier.toString(FathomNight.class.getModifiers()).equals("public final"), true);
+    }
+
+    /** Modifiers but public, as the document writes them. */
+    private static String nonPublic(int modifiers) {
+        T.due("public", Modifier.isPublic(modifiers), true);
+        return Modifier.toString(modifiers & ~Modifier.PUBLIC).replace(" ", "");
+    }
+
+    private static String types(Class<?>[] types) {
+        StringBuilder t = new StringBuilder("(");
+        for (Class<?> type : types) {
+            t.append(t.length() > 1 ? "," : "").append(type.getName());
+        }
+        return t.append(')').toString();
+    }
+
+    /** Rules 1, 2, 11: classes inside are static and not public, with some twenty fields at most. */
+    private static void classesInside() {
+        for (Class<?> inside : FathomNight.class.getDeclaredClasses()) {
+            int modifiers = inside.getModifiers();
+            T.due(inside + " is static", Modifier.isStatic(modifiers), true);
+            T.due(inside + " is not public", Modifier.isPublic(modifiers) || Modifier.isProtected(modifiers), false);
+            int fields = 0;
+            for (Field f : inside.getDeclaredFields()) {
+                fields += Modifier.isStatic(f.getModifiers()) ? 0 : 1;
+            }
+            T.due("fields of " + inside, fields <= 20, true);
+        }
     }
 
     private static void statics(String code) {
